@@ -1430,8 +1430,7 @@ public final class SpriteAtlas {
                     choice.offer(code, turned, greater, smaller);
                     break;
                 case AREA:
-                    int spare = Space.widthIn(code) * Space.heightIn(code) - wide * high;
-                    choice.offer(code, turned, spare, smaller);
+                    choice.offer(code, turned, Space.widthIn(code) * Space.heightIn(code) - wide * high, smaller);
                     break;
                 case TOP_LEFT:
                     choice.offer(code, turned, Space.topIn(code) + high, Space.leftIn(code));

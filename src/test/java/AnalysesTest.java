@@ -16,15 +16,10 @@ public final class AnalysesTest {
         Check.finish();
     }
 
-    private static String image(int wide, int high, int color) {
-        String row = Integer.toString(color).repeat(wide);
-        return row + ("/" + row).repeat(high - 1) + ";";
-    }
-
     private static void unplaced() {
         SpriteAtlas a = new SpriteAtlas();
         Check.due("50: without sprites", a.unplaced(), 0);
-        Check.read(a, "1;0;1;22;" + image(8, 8, 3));
+        Check.read(a, "1;0;1;22;" + Check.image(8, 8, 3));
         Check.due("50: before packing", a.unplaced(), 3);
         a.setPageSize(8, 4);
         Check.due("50: after a change", a.unplaced(), 3);
@@ -44,7 +39,7 @@ public final class AnalysesTest {
         Check.read(a, "0;");
         Check.due("51: blank", a.pageBound(), 0);
         a.setPageSize(4, 4);
-        Check.read(a, image(4, 4, 1) + image(4, 4, 1));
+        Check.read(a, Check.image(4, 4, 1) + Check.image(4, 4, 1));
         Check.due("51: just full", a.pageBound(), 1);
         Check.read(a, "2;");
         Check.due("51: one more", a.pageBound(), 2);
@@ -65,7 +60,7 @@ public final class AnalysesTest {
         SpriteAtlas b = Check.with("0000/0110;");
         b.setPageSize(4, 4);
         b.setTrimming(false);
-        Check.read(b, image(4, 2, 3) + "5;");
+        Check.read(b, Check.image(4, 2, 3) + "5;");
         Check.due("51: whole images", b.pageBound(), 2);
         b.setTrimming(true);
         Check.due("51: trimmed images", b.pageBound(), 1);
@@ -100,7 +95,7 @@ public final class AnalysesTest {
     }
 
     private static void bestMethod() {
-        SpriteAtlas a = Check.with(image(3, 3, 1) + image(2, 4, 2) + image(2, 4, 3));
+        SpriteAtlas a = Check.with(Check.image(3, 3, 1) + Check.image(2, 4, 2) + Check.image(2, 4, 3));
         a.setPageSize(4, 4);
         a.setPageLimit(1);
         Check.due("30: the first one takes the place of two", a.pack(), 2);
@@ -108,7 +103,7 @@ public final class AnalysesTest {
         a.setPageLimit(2);
         Check.due("52: no method is better than the first", a.bestMethod(), 0);
         // By SHORT_SIDE the second one lies where the third one should.
-        SpriteAtlas b = Check.with(image(2, 2, 1) + "2/2;" + image(4, 2, 3));
+        SpriteAtlas b = Check.with(Check.image(2, 2, 1) + "2/2;" + Check.image(4, 2, 3));
         b.setPageSize(4, 4);
         b.pack();
         Check.due("39: two pages", b.pages(), 2);
@@ -150,7 +145,7 @@ public final class AnalysesTest {
     }
 
     private static void bestMethodOfGroups() {
-        SpriteAtlas a = Check.with(image(4, 1, 1) + image(4, 2, 2) + image(2, 1, 3));
+        SpriteAtlas a = Check.with(Check.image(4, 1, 1) + Check.image(4, 2, 2) + Check.image(2, 1, 3));
         a.setPageSize(4, 4);
         a.setPageLimit(1);
         a.setGroup(0, 1);
@@ -161,7 +156,7 @@ public final class AnalysesTest {
     }
 
     private static void smallestPage() {
-        SpriteAtlas a = Check.with(image(8, 1, 1));
+        SpriteAtlas a = Check.with(Check.image(8, 1, 1));
         Check.due("53: as wide as the sprite", a.smallestPage(), 8);
         a.setRotation(true);
         Check.due("53: turned", a.smallestPage(), 8);
@@ -174,7 +169,8 @@ public final class AnalysesTest {
         Check.due("53: the least", b.smallestPage(), 4);
         b.setMargins(0, 3, 0);
         Check.due("53: with a border", b.smallestPage(), 7);
-        SpriteAtlas c = Check.with(image(4, 4, 1) + image(4, 4, 2) + image(4, 4, 3) + image(4, 4, 4));
+        SpriteAtlas c = Check.with(Check.image(4, 4, 1) + Check.image(4, 4, 2) + Check.image(4, 4, 3)
+                + Check.image(4, 4, 4));
         c.setPageSize(4, 32);
         c.setPageLimit(1);
         Check.due("53: four squares", c.smallestPage(), 8);
@@ -186,7 +182,7 @@ public final class AnalysesTest {
         c.setMargins(1, 0, 0);
         Check.due("53: padding between them", c.smallestPage(), 9);
         // Rotation lets a column lie in the row that a wide one leaves over.
-        SpriteAtlas d = Check.with(image(5, 4, 1) + "2/2/2/2/2;");
+        SpriteAtlas d = Check.with(Check.image(5, 4, 1) + "2/2/2/2/2;");
         Check.due("53: upright", d.smallestPage(), 6);
         d.setRotation(true);
         Check.due("53: with rotation", d.smallestPage(), 5);
@@ -203,9 +199,13 @@ public final class AnalysesTest {
     private static void noSmallestPage() {
         SpriteAtlas a = new SpriteAtlas();
         for (int color = 1; color <= 9; color++) {
-            Check.read(a, image(8, 8, color));
+            Check.read(a, Check.image(8, 8, color));
         }
         Check.due("53: nine squares", a.smallestPage(), 24);
+        a.setMargins(0, 1, 1);
+        Check.due("53: the greatest", a.smallestPage(), 32);
+        a.setMargins(1, 1, 1);
+        Check.due("53: just too much", a.smallestPage(), NONE);
         a.setMargins(3, 0, 2);
         Check.due("53: too much around them", a.smallestPage(), NONE);
         a.drop(0);

@@ -66,6 +66,12 @@ final class Check {
         return all.toString();
     }
 
+    /** The text of an image of one color. */
+    static String image(int wide, int high, int color) {
+        String row = Integer.toString(color).repeat(wide);
+        return row + ("/" + row).repeat(high - 1) + ";";
+    }
+
     /** All places, as "page:x,y" with a t if turned, "-" for what is not placed. */
     static String places(SpriteAtlas atlas) {
         StringBuilder all = new StringBuilder();

@@ -531,7 +531,9 @@ final class Model {
                 by = Comparator.<Integer>comparingInt(s -> -Math.max(trimWidth(s), trimHeight(s)))
                         .thenComparingInt(s -> -Math.min(trimWidth(s), trimHeight(s)));
                 break;
-            case 3: by = Comparator.<Integer>comparingInt(s -> -trimHeight(s)).thenComparingInt(s -> -trimWidth(s)); break;
+            case 3:
+                by = Comparator.<Integer>comparingInt(s -> -trimHeight(s)).thenComparingInt(s -> -trimWidth(s));
+                break;
             default: by = Comparator.comparingInt(s -> s);
         }
         line.sort(by.thenComparingInt(s -> s));

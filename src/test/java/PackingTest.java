@@ -17,6 +17,7 @@ public final class PackingTest {
         insertOnPages();
         unplace();
         undo();
+        undoOfPlaces();
         historyOfFive();
         Check.finish();
     }
@@ -53,6 +54,15 @@ public final class PackingTest {
         a.setOrder(SpriteAtlas.BY_HEIGHT);
         a.pack();
         Check.due("30: BY_HEIGHT", fromLeft(a), "3 5 1 2 6 4 0 ");
+        SpriteAtlas b = Check.with("11111111;222/222/222;");
+        b.setPageSize(32, 4);
+        b.setWay(SpriteAtlas.TOP_LEFT);
+        b.setOrder(SpriteAtlas.BY_AREA);
+        b.pack();
+        Check.due("30: the area, not the length, BY_AREA", fromLeft(b), "1 0 ");
+        b.setOrder(SpriteAtlas.BY_SIDE);
+        b.pack();
+        Check.due("30: the length, not the area, BY_SIDE", fromLeft(b), "0 1 ");
         a.setTrimming(false);
         a.setOrder(SpriteAtlas.BY_AREA);
         Check.read(a, "00000000/08000000;");
@@ -75,11 +85,6 @@ public final class PackingTest {
         return order.toString();
     }
 
-    private static String image(int wide, int high, int color) {
-        String row = Integer.toString(color).repeat(wide);
-        return row + ("/" + row).repeat(high - 1) + ";";
-    }
-
     /** Where the second image comes by each of the four ways; the first one lies at 0,0. */
     private static void twoImages(int pageW, int pageH, String first, String second, boolean rotation, String... want) {
         SpriteAtlas a = Check.with(first + second);
@@ -94,23 +99,27 @@ public final class PackingTest {
 
     private static void ways() {
         String right = "0:8,0", below = "0:0,8";
-        twoImages(16, 16, image(8, 4, 1), image(7, 3, 2), false, right, "0:0,4", right, right);
-        twoImages(16, 16, image(4, 8, 1), image(8, 3, 2), false, "0:4,0", below, below, "0:4,0");
+        twoImages(16, 16, Check.image(8, 4, 1), Check.image(7, 3, 2), false, right, "0:0,4", right, right);
+        twoImages(16, 16, Check.image(4, 8, 1), Check.image(8, 3, 2), false, "0:4,0", below, below, "0:4,0");
         // By AREA the second value decides.
-        twoImages(16, 16, image(8, 8, 1), image(3, 7, 2), false, below, right, below, right);
+        twoImages(16, 16, Check.image(8, 8, 1), Check.image(3, 7, 2), false, below, right, below, right);
         // By SHORT_SIDE the second value decides.
-        twoImages(12, 16, image(4, 8, 1), image(5, 5, 2), false, below, below, below, "0:4,0");
+        twoImages(12, 16, Check.image(4, 8, 1), Check.image(5, 5, 2), false, below, below, below, "0:4,0");
         // By LONG_SIDE the second value decides.
-        twoImages(16, 16, image(4, 8, 1), image(5, 5, 2), false, below, below, below, "0:4,0");
+        twoImages(16, 16, Check.image(4, 8, 1), Check.image(5, 5, 2), false, below, below, below, "0:4,0");
         // Both values are equal by the first three ways.
-        twoImages(16, 16, image(8, 8, 1), image(5, 5, 2), false, right, right, right, right);
+        twoImages(16, 16, Check.image(8, 8, 1), Check.image(5, 5, 2), false, right, right, right, right);
     }
 
     private static void rotation() {
         String right = "0:8,0", rightTurned = "0:8,0t";
-        twoImages(16, 16, image(8, 8, 1), image(3, 7, 2), true, rightTurned, right, rightTurned, rightTurned);
-        twoImages(16, 16, image(8, 8, 1), image(5, 5, 2), true, right, right, right, right);
-        SpriteAtlas a = Check.with(image(7, 3, 1));
+        twoImages(16, 16, Check.image(8, 8, 1), Check.image(3, 7, 2), true, rightTurned, right, rightTurned,
+                rightTurned);
+        twoImages(16, 16, Check.image(8, 8, 1), Check.image(5, 5, 2), true, right, right, right, right);
+        // By AREA the second value decides between upright and turned too.
+        twoImages(16, 16, Check.image(8, 8, 1), Check.image(7, 3, 2), true, right, rightTurned, right, right);
+        twoImages(16, 16, Check.image(8, 8, 1), Check.image(8, 7, 2), true, right, rightTurned, right, right);
+        SpriteAtlas a = Check.with(Check.image(7, 3, 1));
         a.setRotation(true);
         Check.due("30: pack()", a.pack(), 0);
         Check.due("30: of two that are equal the upright one", a.isTurned(0), 0);
@@ -126,7 +135,11 @@ public final class PackingTest {
         a.setWay(SpriteAtlas.TOP_LEFT);
         a.pack();
         Check.due("30: upright by TOP_LEFT", a.isTurned(0), 0);
-        SpriteAtlas b = Check.with(image(8, 4, 1) + image(4, 8, 2));
+        a.setPageSize(16, 8);
+        a.setWay(SpriteAtlas.AREA);
+        a.pack();
+        Check.due("30: turned by AREA", a.isTurned(0), 1);
+        SpriteAtlas b = Check.with(Check.image(8, 4, 1) + Check.image(4, 8, 2));
         b.setPageSize(8, 8);
         b.setRotation(true);
         b.pack();
@@ -137,14 +150,15 @@ public final class PackingTest {
     }
 
     private static void pagesInTurn() {
-        SpriteAtlas a = Check.with(image(4, 3, 1) + image(4, 4, 2) + image(4, 1, 3) + image(4, 4, 4) + image(2, 1, 5));
+        SpriteAtlas a = Check.with(Check.image(4, 3, 1) + Check.image(4, 4, 2) + Check.image(4, 1, 3)
+                + Check.image(4, 4, 4) + Check.image(2, 1, 5));
         a.setPageSize(4, 4);
         Check.due("30: one is left over for each full page", a.pack(), 2);
         Check.due("30: places", Check.places(a), "0:0,0 1:0,0 0:0,3 - -");
         a.setPageLimit(4);
         Check.due("30: with four pages", a.pack(), 0);
         Check.due("30: places", Check.places(a), "0:0,0 1:0,0 0:0,3 2:0,0 3:0,0");
-        Check.read(a, image(5, 1, 6));
+        Check.read(a, Check.image(5, 1, 6));
         Check.due("30: too wide for any page", a.pack(), 1);
         Check.due("30: no page is added for it", a.pages(), 4);
         a.setPageLimit(1);
@@ -249,7 +263,7 @@ public final class PackingTest {
         a.unplace(0);
         Check.due("31: again", a.insert(0), 0);
         Check.due("31: no other has moved", Check.places(a), before);
-        Check.read(a, image(8, 8, 7) + image(7, 7, 5));
+        Check.read(a, Check.image(8, 8, 7) + Check.image(7, 7, 5));
         a.setPageSize(8, 8);
         a.pack();
         long sum = a.checksum();
@@ -259,7 +273,8 @@ public final class PackingTest {
     }
 
     private static void insertOnPages() {
-        SpriteAtlas a = Check.with(image(4, 4, 1) + image(4, 4, 2) + image(4, 4, 3) + image(1, 1, 4));
+        SpriteAtlas a = Check.with(Check.image(4, 4, 1) + Check.image(4, 4, 2) + Check.image(4, 4, 3)
+                + Check.image(1, 1, 4));
         a.setPageSize(4, 4);
         a.pack();
         Check.due("31: all pages are full", a.insert(2), FULL);
@@ -276,7 +291,7 @@ public final class PackingTest {
     }
 
     private static void unplace() {
-        SpriteAtlas a = Check.with("12;0;12;3;" + image(4, 4, 4));
+        SpriteAtlas a = Check.with("12;0;12;3;" + Check.image(4, 4, 4));
         a.setPageSize(4, 4);
         Check.due("32: not placed yet", a.unplace(0), NOT_POSSIBLE);
         a.pack();
@@ -317,6 +332,30 @@ public final class PackingTest {
         Check.due("33: an undone setting", a.setTrimming(true), 1);
         Check.due("33: the changes after an undo", a.undo(), 0);
         Check.due("33: none is left", a.undo(), NOT_POSSIBLE);
+    }
+
+    private static void undoOfPlaces() {
+        SpriteAtlas a = Check.with(Check.image(5, 2, 1) + Check.image(4, 5, 2) + Check.image(4, 4, 3)
+                + Check.image(4, 5, 4));
+        a.setPageSize(4, 5);
+        a.setPageLimit(4);
+        a.setRotation(true);
+        a.pack();
+        String packed = "0:0,0t 1:0,0 2:0,0 3:0,0";
+        Check.due("30: four pages", Check.places(a), packed);
+        long sum = a.checksum();
+        a.setPageSize(8, 8);
+        a.pack();
+        Check.due("30: two pages", Check.places(a), "0:0,0 0:0,2 0:4,2 1:0,0");
+        a.unplace(1);
+        Check.due("33: unplace() undone", a.undo(), 4);
+        Check.due("33: places", Check.places(a), "0:0,0 0:0,2 0:4,2 1:0,0");
+        a.undo();
+        a.undo();
+        Check.due("33: page size and places", Check.places(a), packed);
+        Check.due("33: all of it", a.checksum(), sum);
+        Check.due("33: the free rectangles of the last page", a.freeRectangles(3), 0);
+        Check.due("33: the free rectangles", Check.free(a, 2), "0,4 4x1");
     }
 
     private static void historyOfFive() {

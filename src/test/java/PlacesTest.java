@@ -8,6 +8,7 @@ public final class PlacesTest {
         copies();
         records();
         recordsOfTurned();
+        recordsOfMirrored();
         restoring();
         Check.finish();
     }
@@ -116,6 +117,22 @@ public final class PlacesTest {
         Check.due("38: the smallest of those that do", a.recordOf(6), 1);
         Check.due("37: a column", a.isTurned(7), 0);
         Check.due("38: a column", a.recordOf(7), 0);
+    }
+
+    /** All orientations of an image that is placed turned. */
+    private static void recordsOfMirrored() {
+        SpriteAtlas a = Check.with("12345/60000;61/02/03/04/05;");
+        Check.read(a, "00006/54321;50/40/30/20/16;54321/00006;05/04/03/02/61;60000/12345;16/20/30/40/50;");
+        a.setMatching(SpriteAtlas.ANY);
+        a.setRotation(true);
+        a.setPageSize(4, 10);
+        a.pack();
+        Check.due("37: turned", a.isTurned(0), 1);
+        int[] records = {3, 0, 1, 2, 5, 6, 7, 4};
+        for (int q = 0; q < 8; q++) {
+            Check.due("20: orientationOf(" + q + ")", a.orientationOf(q), q == 0 ? NONE : q);
+            Check.due("38: recordOf(" + q + ")", a.recordOf(q), records[q]);
+        }
     }
 
     /** The record of each sprite does what it is for: it makes the sprite of the pixels of the page. */

@@ -144,6 +144,7 @@ public final class RandomRunsTest {
     private void changeSettings() {
         int a = number(0, 3), b = number(0, 3), c = number(0, 2);
         boolean on = random.nextBoolean();
+        String margins = "(" + a + "," + b + "," + c + ")";
         switch (random.nextInt(9)) {
             case 0: {
                 int wide = number(4, mostSide - 1), high = number(4, mostSide - 1);
@@ -151,10 +152,10 @@ public final class RandomRunsTest {
                         model.setPageSize(wide, high));
                 break;
             }
-            case 1: compare("setPageLimit(" + (a + 1) + ")", atlas.setPageLimit(a + 1), model.setPageLimit(a + 1)); break;
-            case 2:
-                compare("setMargins(" + a + "," + b + "," + c + ")", atlas.setMargins(a, b, c), model.setMargins(a, b, c));
+            case 1:
+                compare("setPageLimit(" + (a + 1) + ")", atlas.setPageLimit(a + 1), model.setPageLimit(a + 1));
                 break;
+            case 2: compare("setMargins" + margins, atlas.setMargins(a, b, c), model.setMargins(a, b, c)); break;
             case 3: compare("setTrimming(" + on + ")", atlas.setTrimming(on), model.setTrimming(on)); break;
             case 4: compare("setMatching(" + a + ")", atlas.setMatching(a), model.setMatching(a)); break;
             case 5: compare("setRotation(" + on + ")", atlas.setRotation(on), model.setRotation(on)); break;

@@ -68,7 +68,7 @@ public final class SpritesTest {
         SpriteAtlas a = new SpriteAtlas();
         Check.text(a, text);
         Check.due("4: fault of \"" + text + "\"", a.faultPosition(), position);
-        Check.due("5: read of \"" + text + "\" is possible", a.read() == NOT_POSSIBLE ? 0 : 1, position == NONE ? 1 : 0);
+        Check.holds("5: read of \"" + text + "\"", (a.read() == NOT_POSSIBLE) == (position != NONE));
     }
 
     private static void faultPosition() {
