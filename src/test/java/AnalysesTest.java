@@ -198,8 +198,10 @@ public final class AnalysesTest {
 
     private static void noSmallestPage() {
         SpriteAtlas a = new SpriteAtlas();
-        for (int color = 1; color <= 9; color++) {
-            Check.read(a, Check.image(8, 8, color));
+        a.setMatching(SpriteAtlas.NEVER);
+        Check.text(a, Check.image(8, 8, 1));
+        for (int i = 0; i < 9; i++) {
+            a.read();
         }
         Check.due("53: nine squares", a.smallestPage(), 24);
         a.setMargins(0, 1, 1);

@@ -60,8 +60,10 @@ final class Check {
 
     static String printed(SpriteAtlas atlas) {
         StringBuilder all = new StringBuilder();
-        for (int i = 0; atlas.printed(i) != SpriteAtlas.NONE; i++) {
-            all.append((char) atlas.printed(i));
+        int code = atlas.printed(0);
+        for (int i = 1; code != SpriteAtlas.NONE; i++) {
+            all.append((char) code);
+            code = atlas.printed(i);
         }
         return all.toString();
     }

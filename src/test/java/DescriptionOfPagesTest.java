@@ -594,6 +594,15 @@ public final class DescriptionOfPagesTest {
         second(12, 12, Check.image(4, 4, 1), Check.image(3, 6, 2), "BRBR");
         // 6 x 3: 2, 9 and 6, 5
         second(12, 12, Check.image(4, 4, 1), Check.image(6, 3, 2), "RBRR");
+        // By AREA upright and turned are equal in the first value. 7 x 3: 1, 13 and 5, 9; on the other page 9, 5 and 13, 1
+        SpriteAtlas a = onPages(8, 16, Check.image(7, 3, 1));
+        a.setRotation(true);
+        a.setWay(SpriteAtlas.AREA);
+        a.pack();
+        Doc.due("upright by AREA", a.isTurned(0), 0);
+        a.setPageSize(16, 8);
+        a.pack();
+        Doc.due("turned by AREA", a.isTurned(0), 1);
     }
 
     /** The upright box reaches down as far in one free rectangle as the turned one in another, more to the left. */
@@ -651,6 +660,19 @@ public final class DescriptionOfPagesTest {
         Doc.due("of group 3 now", a.insert(2), 0);
         Doc.due("of group 0", a.insert(0), 1);
         Doc.due("places", Check.places(a), "1:0,0 - 0:0,0");
+        SpriteAtlas b = onPages(4, 4, "1;2;3;4;");
+        b.setGroup(1, 1);
+        b.setGroup(3, 1);
+        b.setGrouped(true);
+        b.pack();
+        Doc.due("groups 0 and 1", Check.places(b), "0:0,0 1:0,0 0:1,0 1:1,0");
+        for (int sprite = 0; sprite < 4; sprite++) {
+            b.unplace(sprite);
+        }
+        for (int sprite : new int[] {1, 0, 3, 2}) {
+            b.insert(sprite);
+        }
+        Doc.due("groups 1 and 0", Check.places(b), "1:0,0 0:0,0 1:1,0 0:1,0");
     }
 
     private static void toPack() {
@@ -676,13 +698,16 @@ public final class DescriptionOfPagesTest {
     private static String packedOrder(SpriteAtlas a, int order) {
         a.setOrder(order);
         a.pack();
+        int[] starting = new int[32];
+        for (int sprite = 0, n = a.sprites(); sprite < n; sprite++) {
+            int x = a.originalOf(sprite) == NONE ? a.xOf(sprite) : NONE;
+            if (x >= 0) {
+                starting[x] = sprite + 1;
+            }
+        }
         StringBuilder text = new StringBuilder();
         for (int x = 0; x < 32; x++) {
-            for (int sprite = 0; sprite < a.sprites(); sprite++) {
-                if (a.xOf(sprite) == x && a.originalOf(sprite) == NONE) {
-                    text.append(sprite);
-                }
-            }
+            text.append(starting[x] > 0 ? Integer.toString(starting[x] - 1) : "");
         }
         return text.toString();
     }
@@ -743,6 +768,15 @@ public final class DescriptionOfPagesTest {
         b.setRotation(true);
         b.pack();
         Doc.due("a turned image", Check.pixels(b, 0, 4, 5), "6100/7200/8300/9400/0500");
+        SpriteAtlas c = onPages(7, 4, "12/34;567/089;98/76/54;21;");
+        c.setWay(SpriteAtlas.TOP_LEFT);
+        c.pack();
+        Doc.due("several images", Check.places(c), "0:0,0 0:2,0 0:5,0 0:0,2");
+        Doc.due("several images", Check.pixels(c, 0, 7, 4), "1256798/3408976/2100054/0000000");
+        c.setPageSize(5, 4);
+        c.pack();
+        Doc.due("on page 1", Check.places(c), "0:0,0 0:2,0 1:0,0 0:0,2");
+        Doc.due("on page 1", Check.pixels(c, 1, 5, 4), "98000/76000/54000/00000");
     }
 
     private static void extrudedPixels() {
@@ -767,6 +801,13 @@ public final class DescriptionOfPagesTest {
         c.setMargins(3, 0, 2);
         c.pack();
         Doc.due("one row", Check.pixels(c, 0, 7, 6), "1112333/1112333/1112333/1112333/1112333/0000000");
+        SpriteAtlas e = onPages(9, 7, "12/34;5;67;");
+        e.setMargins(1, 0, 1);
+        e.setWay(SpriteAtlas.TOP_LEFT);
+        e.pack();
+        Doc.due("several images", Check.places(e), "0:1,1 0:6,1 0:6,5");
+        Doc.due("several images", Check.pixels(e, 0, 9, 7), "112205550/112205550/334405550/334400000/000006677/"
+                + "000006677/000006677");
         SpriteAtlas d = onPages(6, 8, "12345/67890;");
         d.setRotation(true);
         d.setMargins(0, 1, 1);
@@ -798,6 +839,7 @@ public final class DescriptionOfPagesTest {
         Doc.due("turned", a.isTurned(0) + "" + a.isTurned(5) + a.isTurned(6), "110");
         Doc.due("records", "" + a.recordOf(0) + a.recordOf(1) + a.recordOf(2) + a.recordOf(3) + a.recordOf(4), "30123");
         Doc.due("the smallest of several", "" + a.recordOf(5) + a.recordOf(6), "10");
+        recordsOfTurnedAndMirrored();
         SpriteAtlas b = onPages(16, 16, "12/34;31/42;43/21;24/13;21/43;42/31;34/12;13/24;");
         b.setMatching(SpriteAtlas.ANY);
         b.pack();
@@ -815,6 +857,23 @@ public final class DescriptionOfPagesTest {
         c.pack();
         Doc.due("a turned one", c.isTurned(0) + "" + c.recordOf(0), "13");
         Doc.due("another", c.isTurned(1) + "" + c.recordOf(1), "13");
+    }
+
+    /** All orientations of an image that is placed turned, which is as its orientation 1. */
+    private static void recordsOfTurnedAndMirrored() {
+        SpriteAtlas a = Check.with("12345/60000;61/02/03/04/05;00006/54321;50/40/30/20/16;");
+        Check.read(a, "54321/00006;05/04/03/02/61;60000/12345;16/20/30/40/50;");
+        a.setMatching(SpriteAtlas.ANY);
+        a.setRotation(true);
+        a.setPageSize(4, 10);
+        a.pack();
+        Doc.due("turned", a.isTurned(0), 1);
+        String records = "";
+        for (int sprite = 0; sprite < 8; sprite++) {
+            Doc.due("orientationOf(" + sprite + ")", a.orientationOf(sprite), sprite == 0 ? NONE : sprite);
+            records += a.recordOf(sprite);
+        }
+        Doc.due("records", records, "30125674");
     }
 
     // ---- the history
@@ -891,6 +950,52 @@ public final class DescriptionOfPagesTest {
             Doc.due("checksum()", a.checksum(), before[i]);
         }
         Doc.due("no sixth state", a.undo(), NOT_POSSIBLE);
+        statesOf24();
+        statesOfPlaces();
+    }
+
+    private static String colors(SpriteAtlas a) {
+        StringBuilder text = new StringBuilder();
+        for (int sprite = 0; sprite < a.sprites(); sprite++) {
+            text.append(a.color(sprite, 0, 0));
+        }
+        return text.toString();
+    }
+
+    private static void statesOf24() {
+        String before = "123456789123456789123456";
+        SpriteAtlas a = Check.with(before.replaceAll("(.)", "$1;"));
+        for (int sprite : new int[] {0, 11, 23}) {
+            a.drop(sprite);
+            Doc.due("one less", a.sprites(), 23);
+            a.undo();
+            Doc.due("all pixels of 24 sprites", colors(a), before);
+        }
+        a.setGroup(23, 3);
+        a.drop(0);
+        a.undo();
+        Doc.due("all groups", a.groupOf(22) + " " + a.groupOf(23), "0 3");
+    }
+
+    private static void statesOfPlaces() {
+        SpriteAtlas a = Check.with(Check.image(5, 2, 1) + Check.image(4, 5, 2) + Check.image(4, 4, 3)
+                + Check.image(4, 5, 4));
+        a.setPageLimit(4);
+        a.setRotation(true);
+        a.setPageSize(4, 5);
+        a.pack();
+        String packed = "0:0,0t 1:0,0 2:0,0 3:0,0";
+        Doc.due("four pages", Check.places(a), packed);
+        long sum = a.checksum();
+        a.setPageSize(8, 8);
+        a.pack();
+        Doc.due("two pages", Check.places(a), "0:0,0 0:0,2 0:4,2 1:0,0");
+        a.undo();
+        a.undo();
+        Doc.due("four pages again", Check.places(a), packed);
+        Doc.due("checksum()", a.checksum(), sum);
+        Doc.due("what is free on them", Check.free(a, 0) + " and " + Check.free(a, 2) + " and " + Check.free(a, 3),
+                "2,0 2x5 and 0,4 4x1 and ");
     }
 
     private static void oldestState() {

@@ -591,11 +591,33 @@ public final class DescriptionOfSpritesTest {
         SpriteAtlas c = Check.with("112;11/20;12;1122;11/22;");
         c.setMatching(SpriteAtlas.ANY);
         Doc.due("another size is no copy", found(c, true), "-----");
+        for (String image : new String[] {"123/456", "12/34/56", "1/2/3/4/5/6/7/8", "12345678", "12/34"}) {
+            onePixelOff(image);
+        }
+        SpriteAtlas e = Check.with(Check.image(8, 8, 9) + "12;1/2;012/345/000;30/41/52;");
+        e.setMatching(SpriteAtlas.TURNED);
+        Doc.due("what lies beside a trimmed image does not matter", found(e, true), "--1-3");
         SpriteAtlas d = Check.with("1;".repeat(24));
         Doc.due("the last of 24", d.originalOf(23), 0);
         d.setPixel(0, 0, 0, 2);
         Doc.due("only lower numbers", d.originalOf(0), NONE);
         Doc.due("the next one is the original then", d.originalOf(1) + ", " + d.originalOf(23), "-4, 1");
+    }
+
+    /** An image that differs in a single pixel, wherever it is, is no copy by any matching; the image itself is one. */
+    private static void onePixelOff(String image) {
+        SpriteAtlas a = Check.with(image + ";" + image + ";");
+        for (int matching = SpriteAtlas.EXACT; matching <= SpriteAtlas.ANY; matching++) {
+            a.setMatching(matching);
+            Doc.due(image + ": itself", a.originalOf(1), 0);
+            for (int i = 0; i < a.width(1) * a.height(1); i++) {
+                int x = i % a.width(1), y = i / a.width(1);
+                int color = a.setPixel(1, x, y, 9);
+                Doc.due(image + ": another pixel " + x + ", " + y, a.originalOf(1), NONE);
+                a.setPixel(1, x, y, color);
+            }
+        }
+        Doc.due(image + ": itself again", a.originalOf(1), 0);
     }
 
     private static void lowestOriginal() {

@@ -74,13 +74,16 @@ public final class PackingTest {
     }
 
     private static String fromLeft(SpriteAtlas a) {
+        int[] starting = new int[32];
+        for (int sprite = 0, n = a.sprites(); sprite < n; sprite++) {
+            int x = a.xOf(sprite);
+            if (x >= 0) {
+                starting[x] = sprite + 1;
+            }
+        }
         StringBuilder order = new StringBuilder();
         for (int x = 0; x < 32; x++) {
-            for (int sprite = 0; sprite < a.sprites(); sprite++) {
-                if (a.xOf(sprite) == x) {
-                    order.append(sprite).append(' ');
-                }
-            }
+            order.append(starting[x] > 0 ? starting[x] - 1 + " " : "");
         }
         return order.toString();
     }

@@ -135,8 +135,7 @@ public final class PlacesTest {
         }
     }
 
-    /** The record of each sprite does what it is for: it makes the sprite of the pixels of the page. */
-    private static void restoring() {
+    private static SpriteAtlas manyPlaced() {
         SpriteAtlas a = new SpriteAtlas();
         a.setMatching(SpriteAtlas.ANY);
         a.setRotation(true);
@@ -149,7 +148,13 @@ public final class PlacesTest {
             a.draw(seed, 4);
         }
         Check.due("30: pack()", a.pack(), 0);
-        for (int sprite = 0; sprite < a.sprites(); sprite++) {
+        return a;
+    }
+
+    /** The record of each sprite does what it is for: it makes the sprite of the pixels of the page. */
+    private static void restoring() {
+        for (int sprite = 0; sprite < 24; sprite++) {
+            SpriteAtlas a = manyPlaced();
             int source = a.originalOf(sprite) == NONE ? sprite : a.originalOf(sprite);
             if (a.trimWidth(sprite) > 0) {
                 boolean turned = a.isTurned(sprite) == 1;

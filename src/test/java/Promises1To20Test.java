@@ -197,6 +197,15 @@ public final class Promises1To20Test {
         a.draw(1, 1);
         Doc.due("the group of one in place of a dropped one", a.groupOf(8), 0);
         Doc.due("an equal start, an equal sprite", image(a, 8), image(a, 1));
+        SpriteAtlas b = new SpriteAtlas();
+        b.setTrimming(false);
+        b.setMatching(SpriteAtlas.NEVER);
+        b.draw(1, 1);
+        b.draw(1, 1);
+        Doc.due("without trimming and matching", b.trimHeight(1) + " " + b.originalOf(1), "4 -4");
+        b.setMatching(SpriteAtlas.EXACT);
+        b.draw(1, 1);
+        Doc.due("with matching", b.originalOf(2), 0);
     }
 
     private static void drawnNumbers() {
@@ -349,6 +358,10 @@ public final class Promises1To20Test {
         Doc.due("0", a.setPixel(0, 0, 0, 9), 0);
         Doc.due("9", a.setPixel(0, 0, 0, 9), 9);
         Doc.due("9 again", a.setPixel(0, 0, 0, 5), 9);
+        SpriteAtlas b = Check.with("123/456/789;");
+        for (int i = 0; i < 9; i++) {
+            Doc.due("column " + i % 3 + ", row " + i / 3, b.setPixel(0, i % 3, i / 3, 0), i + 1);
+        }
     }
 
     private static String firstColors(SpriteAtlas a) {

@@ -306,6 +306,7 @@ public final class Promises39To58Test {
         Doc.due("1024 of 1024", share(b, 0), "1/1");
         b.unplace(5);
         Doc.due("960 of 1024", share(b, 0), "15/16");
+        Doc.due("24 of 1024", share(twentyFour(), 0), "3/128");
     }
 
     // ---- analyses
@@ -676,6 +677,8 @@ public final class Promises39To58Test {
         Doc.due("room on a page of group 0", a.insert(0), 0);
         a.restore(1);
         Doc.due("the groups of pages and sprites", a.insert(0) + " " + a.groupOf(2), "-2 1");
+        restoreOf24();
+        restoreOfPlaces();
         Doc.says("57", "The slot keeps them.");
         a.restore(1);
         a.setPixel(2, 0, 0, 9);
@@ -691,6 +694,39 @@ public final class Promises39To58Test {
         Doc.due("undo() of a later change", a.undo(), 0);
         Doc.due("undo() once more", a.undo(), NOT_POSSIBLE);
         Doc.due("as it was kept", a.checksum(), sum);
+    }
+
+    private static void restoreOf24() {
+        SpriteAtlas a = Check.with("1;2;3;4;5;6;7;8;9;1;2;3;4;5;6;7;8;9;1;2;3;4;5;6;");
+        a.setGroup(23, 2);
+        a.keep(0);
+        a.drop(0);
+        a.restore(0);
+        for (int sprite = 0; sprite < 24; sprite++) {
+            Doc.due("the color of sprite " + sprite, a.color(sprite, 0, 0), sprite % 9 + 1);
+        }
+        Doc.due("groups", a.groupOf(22) + " " + a.groupOf(23), "0 2");
+    }
+
+    private static void restoreOfPlaces() {
+        SpriteAtlas a = Check.with(Check.image(5, 2, 1) + Check.image(4, 5, 2) + Check.image(4, 4, 3)
+                + Check.image(4, 5, 4));
+        a.setPageLimit(4);
+        a.setRotation(true);
+        a.setPageSize(4, 5);
+        a.pack();
+        a.keep(1);
+        long sum = a.checksum();
+        a.setPageSize(8, 8);
+        a.pack();
+        a.keep(0);
+        Doc.due("two pages", Check.places(a), "0:0,0 0:0,2 0:4,2 1:0,0");
+        a.restore(1);
+        Doc.due("four pages", Check.places(a), "0:0,0t 1:0,0 2:0,0 3:0,0");
+        Doc.due("checksum()", a.checksum(), sum);
+        Doc.due("what is free on them", Check.free(a, 0) + " and " + Check.free(a, 3), "2,0 2x5 and ");
+        a.restore(0);
+        Doc.due("two pages", Check.places(a), "0:0,0 0:0,2 0:4,2 1:0,0");
     }
 
     private static void restoreResults() {
@@ -719,11 +755,13 @@ public final class Promises39To58Test {
 
     /** The checksum by the public face, as the document says it. */
     private static long sumOf(SpriteAtlas a, int pageWidth, int pageHeight) {
-        long h = 31 * 19 + a.sprites();
-        for (int s = 0; s < a.sprites(); s++) {
-            h = 31 * (31 * h + a.width(s)) + a.height(s);
-            for (int i = 0; i < a.width(s) * a.height(s); i++) {
-                h = 31 * h + a.color(s, i % a.width(s), i / a.width(s));
+        int sprites = a.sprites(), pages = a.pages();
+        long h = 31 * 19 + sprites;
+        for (int s = 0; s < sprites; s++) {
+            int wide = a.width(s), high = a.height(s);
+            h = 31 * (31 * h + wide) + high;
+            for (int i = 0; i < wide * high; i++) {
+                h = 31 * h + a.color(s, i % wide, i / wide);
             }
             int[] values = {a.groupOf(s), a.trimLeft(s), a.trimTop(s), a.trimWidth(s), a.trimHeight(s), a.originalOf(s),
                 a.orientationOf(s), a.pageOf(s), a.xOf(s), a.yOf(s), a.isTurned(s), a.recordOf(s)};
@@ -731,8 +769,8 @@ public final class Promises39To58Test {
                 h = 31 * h + value;
             }
         }
-        h = 31 * h + a.pages();
-        for (int page = 0; page < a.pages(); page++) {
+        h = 31 * h + pages;
+        for (int page = 0; page < pages; page++) {
             h = 31 * (31 * (31 * h + a.usedWidth(page)) + a.usedHeight(page)) + a.freeRectangles(page);
             for (int i = 0; i < pageWidth * pageHeight; i++) {
                 h = 31 * h + a.pixel(page, i % pageWidth, i / pageWidth);
@@ -766,19 +804,32 @@ public final class Promises39To58Test {
                 + " by row, groupOf(), trimLeft(), trimTop(), trimWidth(), trimHeight(), originalOf(), orientationOf(),"
                 + " pageOf(), xOf(), yOf(), isTurned() and recordOf(); pages(); for each page usedWidth(), usedHeight(),"
                 + " freeRectangles(), and the colors of its pixels row by row.");
-        for (int seed = 1; seed <= 24; seed++) {
-            SpriteAtlas a = drawn(seed);
+        for (int seed = 1; seed <= 48; seed++) {
             int wide = 6 + seed % 5, high = 6 + seed % 4;
+            SpriteAtlas a = onPages(wide, high, "123;321;3/2/1;0;");
             a.setMatching(seed % 4);
-            Doc.due("before packing", a.checksum(), sumOf(a, wide, high));
-            a.pack();
-            Doc.due("packed", a.checksum(), sumOf(a, wide, high));
-            a.unplace(seed % 3);
-            Doc.due("one is removed", a.checksum(), sumOf(a, wide, high));
+            a.setTrimming(seed % 5 > 0);
+            a.setRotation(seed % 2 == 0);
+            a.setMargins(seed % 3 % 2, seed % 5 % 2, seed % 7 == 0 ? 1 : 0);
+            a.draw(seed, 5);
+            a.setGroup(seed % 9, 1 + seed % 3);
+            if (seed % 6 > 0) {
+                a.pack();
+                a.unplace(seed % 3);
+            }
+            long sum = a.checksum();
+            Doc.due("with seed " + seed, sum, sumOf(a, wide, high));
         }
-        SpriteAtlas b = onPages(32, 32, "1;".repeat(24));
-        b.setMatching(SpriteAtlas.NEVER);
-        b.pack();
-        Doc.due("24 sprites on 32 x 32 pixels", b.checksum(), sumOf(b, 32, 32));
+        Model model = new Model();
+        SpriteAtlas b = Check.with("1;".repeat(24));
+        for (char c : "1;".repeat(24).toCharArray()) {
+            model.append(c);
+        }
+        model.read();
+        Doc.due("of 24 sprites", b.checksum(), model.checksum());
+        Doc.due("setMatching", b.setMatching(SpriteAtlas.NEVER), model.setMatching(0));
+        Doc.due("setPageSize", b.setPageSize(32, 32), model.setPageSize(32, 32));
+        Doc.due("pack", b.pack(), model.pack());
+        Doc.due("on 32 x 32 pixels", b.checksum(), model.checksum());
     }
 }
