@@ -30,6 +30,8 @@ public final class SpriteAtlas {
     private static final int SLOTS = 2;
     // With n boxes there are at most n * (n - 1) / 2 + 3 * n + 1 free rectangles; NOTES.md has the proof.
     private static final int MOST_FREE = MOST_SPRITES * (MOST_SPRITES - 1) / 2 + 3 * MOST_SPRITES + 1;
+    // More than packingCost() answers for any packing.
+    private static final long BEYOND_COSTS = 1000000000L;
 
     private final Text text = new Text();
     private final StringBuilder output = new StringBuilder();
@@ -436,7 +438,7 @@ public final class SpriteAtlas {
     public int bestMethod() {
         trial.copyFrom(now);
         int best = 0;
-        long bestCost = Long.MAX_VALUE;
+        long bestCost = BEYOND_COSTS;
         for (int order = BY_NUMBER; order <= BY_HEIGHT; order++) {
             for (int way = SHORT_SIDE; way <= TOP_LEFT; way++) {
                 trial.settings.order = order;

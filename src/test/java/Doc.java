@@ -9,8 +9,8 @@ import java.util.regex.Pattern;
 
 /**
  * The sentences of ../shared/DOC.md. A test names the sentence that it tests; what no test of a class names, of the
- * parts that the class is about, is told as a fault. The parts are "What it is", the paragraphs of the description by
- * their first words, "The constants", and the promises by their numbers.
+ * parts that the class is about, is told as a fault. The parts are "What it is", "The public face", the paragraphs of
+ * the description by their first words, "The constants", the promises by their numbers, and their heads as "head N".
  */
 final class Doc {
     private static final Map<String, String> PARTS = new LinkedHashMap<>();
@@ -38,6 +38,11 @@ final class Doc {
         for (int i = Math.max(start, 0); start >= 0 && i < start + sentence.length(); i++) {
             LEFT.get(part).setCharAt(i, ' ');
         }
+    }
+
+    /** The text of a part, with single blanks between its words. */
+    static String part(String name) {
+        return PARTS.getOrDefault(name, "");
     }
 
     static void due(String what, long got, long want) {
@@ -76,6 +81,7 @@ final class Doc {
 
     private static void split(String all) {
         put("What it is", between(all, "## What it is\n", "\n## The public face"));
+        put("The public face", between(all, "```java\n", "```\n\n## Description"));
         String description = between(all, "## Description\n", "\n## Promise 1:");
         put("The constants", description.substring(description.indexOf("The constants:")));
         for (String paragraph : description.substring(0, description.indexOf("The constants:")).split("\n\n")) {
@@ -85,11 +91,12 @@ final class Doc {
                 put(text.substring(0, end), text.substring(end + 2));
             }
         }
-        Matcher head = Pattern.compile("## Promise ([0-9]+): .*\n\n`.*`\n([^#]*)").matcher(all);
+        Matcher head = Pattern.compile("## Promise ([0-9]+): .*\n\n`(.*)`\n([^#]*)").matcher(all);
         while (head.find()) {
-            put(head.group(1), head.group(2).replaceAll("(?m)^---- .*$", ""));
+            put("head " + head.group(1), head.group(2));
+            put(head.group(1), head.group(3).replaceAll("(?m)^---- .*$", ""));
         }
-        Check.due("the parts of the document", new TreeSet<>(PARTS.keySet()).size(), 2 + 8 + 58);
+        Check.due("the parts of the document", new TreeSet<>(PARTS.keySet()).size(), 3 + 8 + 2 * 58);
     }
 
     private static String between(String all, String start, String end) {

@@ -5,6 +5,7 @@ import com.sun.source.tree.CompilationUnitTree;
 import com.sun.source.tree.ExpressionTree;
 import com.sun.source.tree.ImportTree;
 import com.sun.source.tree.LiteralTree;
+import com.sun.source.tree.MemberSelectTree;
 import com.sun.source.tree.MethodInvocationTree;
 import com.sun.source.tree.MethodTree;
 import com.sun.source.tree.NewClassTree;
@@ -229,6 +230,20 @@ public final class LanguageTest {
             String owner = element.getEnclosingElement().toString().replace("AbstractStringBuilder", "StringBuilder");
             return owner + "." + (element.getKind() == ElementKind.CONSTRUCTOR
                     ? element.toString().replaceFirst("^[^(]*", "<init>") : element.toString());
+        }
+
+        /** The library's own constants are not in LANGUAGE.md's list; the length of an array is no field of a class. */
+        @Override
+        public Void visitMemberSelect(MemberSelectTree tree, Void nothing) {
+            Element element = trees.getElement(getCurrentPath());
+            if (element != null && element.getKind() == ElementKind.FIELD) {
+                String owner = element.getEnclosingElement().toString();
+                boolean known = owner.startsWith("SpriteAtlas") || owner.equals("Array");
+                if (!known) {
+                    wrong("4: " + tree, tree);
+                }
+            }
+            return super.visitMemberSelect(tree, nothing);
         }
 
         @Override
